@@ -46,7 +46,7 @@ final class Due {
         throwing(call, IllegalStateException.class, made);
     }
 
-    /** Just that class is due, not one below it: the machine throws classes below. */
+    /** Just that class is due, thrown by the program's own code, not by the machine or a library in it. */
     private void throwing(String call, Class<?> want, Call made) {
         asked++;
         Class<?> got = null;
@@ -54,6 +54,10 @@ final class Due {
             made.run();
         } catch (RuntimeException e) {
             got = e.getClass();
+            StackTraceElement[] trace = e.getStackTrace();
+            if (trace.length == 0 || !trace[0].getClassName().startsWith("Packstack")) {
+                wrong(call + " did not throw itself");
+            }
         }
         if (got != want) {
             wrong(call + " threw " + (got == null ? "nothing" : got.getName()) + ", due is " + want.getName());

@@ -134,6 +134,9 @@ public final class PromisesTest {
         due.is("objects()", x.objects(), 3);
         due.is("pack(1, 1, true)", x.pack(1, 1, true), 0);
         due.badState("costOf(0) after the next pack", () -> x.costOf(0));
+        Packstack y = stored(0x1L, 0x1L, 0x1L);
+        due.is("delete(2) with 0 live", y.delete(2), 2);
+        due.is("delete(1) with 0 live", y.delete(1), 1);
     }
 
     private static void objects() {
