@@ -105,7 +105,7 @@ final class Model {
         return live.stream().filter(each -> each).count();
     }
 
-    long objects() {
+    int objects() {
         return names.size();
     }
 
@@ -250,7 +250,7 @@ final class Model {
         return costOf(delta(contents.get(object), contents.get(base)));
     }
 
-    long hash(long content) {
+    int hash(long content) {
         argument(isContent(content));
         return hashOf(Long.toHexString(content));
     }

@@ -38,26 +38,6 @@ public final class PromisesTest {
         due.close("PromisesTest");
     }
 
-    /** Objects with rising numbers from 0, all of one name. */
-    private static Packstack stored(long... contents) {
-        Packstack x = new Packstack();
-        for (long content : contents) {
-            x.store(5, content);
-        }
-        return x;
-    }
-
-    private static Packstack packed(int window, int bound, long... contents) {
-        Packstack x = stored(contents);
-        x.pack(window, bound, false);
-        return x;
-    }
-
-    /** A chain: 1 is a delta against 0, 2 one against 1. */
-    private static Packstack chain() {
-        return packed(8, 6, 0x12345L, 0x12345L, 0x12345L);
-    }
-
     private static void newObject() {
         due.promise("1");
         Packstack x = new Packstack();
@@ -116,7 +96,7 @@ public final class PromisesTest {
 
     private static void delete() {
         due.promise("3");
-        Packstack x = packed(8, 6, 0x12345L, 0x12345L, 0x9L);
+        Packstack x = Samples.packed(8, 6, 0x12345L, 0x12345L, 0x9L);
         due.is("delete(0)", x.delete(0), 2);
         due.is("isLive(0)", x.isLive(0), false);
         due.is("isLoose(0)", x.isLoose(0), false);
@@ -134,14 +114,14 @@ public final class PromisesTest {
         due.is("objects()", x.objects(), 3);
         due.is("pack(1, 1, true)", x.pack(1, 1, true), 0);
         due.badState("costOf(0) after the next pack", () -> x.costOf(0));
-        Packstack y = stored(0x1L, 0x1L, 0x1L);
+        Packstack y = Samples.stored(0x1L, 0x1L, 0x1L);
         due.is("delete(2) with 0 live", y.delete(2), 2);
         due.is("delete(1) with 0 live", y.delete(1), 1);
     }
 
     private static void objects() {
         due.promise("4");
-        Packstack x = stored(0x1L, 0x2L);
+        Packstack x = Samples.stored(0x1L, 0x2L);
         due.is("objects()", x.objects(), 2);
         x.delete(1);
         due.is("objects() after a deletion", x.objects(), 2);
@@ -151,7 +131,7 @@ public final class PromisesTest {
 
     private static void isLive() {
         due.promise("5");
-        Packstack x = packed(1, 1, 0x1L, 0x2L);
+        Packstack x = Samples.packed(1, 1, 0x1L, 0x2L);
         x.prune();
         x.damage(0);
         due.is("isLive(0) unreadable", x.isLive(0), true);
@@ -166,7 +146,7 @@ public final class PromisesTest {
 
     private static void isLoose() {
         due.promise("6");
-        Packstack x = stored(0x1L, 0x2L);
+        Packstack x = Samples.stored(0x1L, 0x2L);
         due.is("isLoose(0)", x.isLoose(0), true);
         x.pack(1, 1, false);
         due.is("isLoose(0) after a pack", x.isLoose(0), true);
@@ -182,14 +162,14 @@ public final class PromisesTest {
 
     private static void canRead() {
         due.promise("7");
-        Packstack x = chain();
+        Packstack x = Samples.chain();
         x.damage(1);
         due.is("canRead(2) loose", x.canRead(2), true);
         x.prune();
         due.is("canRead(0) whole", x.canRead(0), true);
         due.is("canRead(1) loose", x.canRead(1), true);
         due.is("canRead(2) loose, its base damaged", x.canRead(2), true);
-        Packstack y = chain();
+        Packstack y = Samples.chain();
         y.prune();
         due.is("canRead(2) through the chain", y.canRead(2), true);
         y.delete(0);
@@ -204,7 +184,7 @@ public final class PromisesTest {
 
     private static void read() {
         due.promise("8");
-        Packstack x = chain();
+        Packstack x = Samples.chain();
         x.store(3, 0xABCL);
         due.is("read(3) loose", x.read(3), 0xABCL);
         x.prune();
@@ -228,12 +208,12 @@ public final class PromisesTest {
         due.is("base(0) of the greater name", byName.base(0), 1);
         due.is("base(1)", byName.base(1), Packstack.NONE);
 
-        Packstack byLetters = stored(0x1234L, 0x12345L);
+        Packstack byLetters = Samples.stored(0x1234L, 0x12345L);
         due.is("pack(1, 1, false)", byLetters.pack(1, 1, false), 8);
         due.is("base(0) with fewer letters", byLetters.base(0), 1);
         due.is("base(1)", byLetters.base(1), Packstack.NONE);
 
-        Packstack byNumber = stored(0x1234L, 0x1234L);
+        Packstack byNumber = Samples.stored(0x1234L, 0x1234L);
         due.is("pack(1, 1, false)", byNumber.pack(1, 1, false), 7);
         due.is("base(0)", byNumber.base(0), Packstack.NONE);
         due.is("base(1) of the greater number", byNumber.base(1), 0);
@@ -241,27 +221,27 @@ public final class PromisesTest {
 
     private static void packChoice() {
         due.promise("9, choice");
-        Packstack equalCost = packed(8, 6, 0x123L, 0x123L);
+        Packstack equalCost = Samples.packed(8, 6, 0x123L, 0x123L);
         due.is("base(1) for a delta that costs as much", equalCost.base(1), Packstack.NONE);
         due.is("cost()", equalCost.cost(), 6);
 
-        Packstack tied = packed(8, 6, 0x12345L, 0x12345L, 0x12345L);
+        Packstack tied = Samples.packed(8, 6, 0x12345L, 0x12345L, 0x12345L);
         due.is("base(2) of several the nearest", tied.base(2), 1);
         due.is("cost()", tied.cost(), 11);
 
         // Ahead of 2: 0 far off, to be copied whole, and 1 nearest, to be copied in two.
-        Packstack cheapest = packed(8, 6, 0x1234561L, 0x4561123L, 0x123456L);
+        Packstack cheapest = Samples.packed(8, 6, 0x1234561L, 0x4561123L, 0x123456L);
         due.is("base(2) of several the cheapest", cheapest.base(2), 0);
         due.is("costOf(2)", cheapest.costOf(2), 3);
 
-        Packstack alien = packed(8, 6, 0x12345L, 0x6789AL);
+        Packstack alien = Samples.packed(8, 6, 0x12345L, 0x6789AL);
         due.is("base(1) with nothing to copy", alien.base(1), Packstack.NONE);
         due.is("costOf(1)", alien.costOf(1), 5);
     }
 
     private static void packWindowAndBound() {
         due.promise("9, window and bound");
-        Packstack x = stored(0x12345L, 0x12345L, 0x12345L, 0x12345L);
+        Packstack x = Samples.stored(0x12345L, 0x12345L, 0x12345L, 0x12345L);
         due.is("pack(8, 0, false)", x.pack(8, 0, false), 20);
         due.is("depth(1)", x.depth(1), 0);
         due.is("pack(1, 1, false)", x.pack(1, 1, false), 16);
@@ -275,20 +255,20 @@ public final class PromisesTest {
         due.is("pack(1, 2, false)", x.pack(1, 2, false), 16);
         due.is("depth(2)", x.depth(2), 2);
         due.is("depth(3)", x.depth(3), 0);
-        Packstack deep = packed(1, 6, 0x1234L, 0x1234L, 0x1234L, 0x1234L, 0x1234L, 0x1234L, 0x1234L, 0x1234L);
+        Packstack deep = Samples.packed(1, 6, 0x1234L, 0x1234L, 0x1234L, 0x1234L, 0x1234L, 0x1234L, 0x1234L, 0x1234L);
         due.is("depth(6)", deep.depth(6), 6);
         due.is("depth(7) beyond the greatest bound", deep.depth(7), 0);
     }
 
     private static void packReuse() {
         due.promise("9, reuse");
-        Packstack bounded = chain();
+        Packstack bounded = Samples.chain();
         due.is("pack(8, 1, true)", bounded.pack(8, 1, true), 11);
         due.is("base(1) reused", bounded.base(1), 0);
         due.is("base(2) found anew, its base at the bound", bounded.base(2), 0);
         due.is("reused()", bounded.reused(), 1);
 
-        Packstack gone = chain();
+        Packstack gone = Samples.chain();
         gone.delete(0);
         due.is("pack(8, 6, true)", gone.pack(8, 6, true), 8);
         due.is("base(1), its base gone", gone.base(1), Packstack.NONE);
@@ -297,13 +277,13 @@ public final class PromisesTest {
         due.is("reused()", gone.reused(), 1);
         due.is("compared()", gone.compared(), 0);
 
-        Packstack damaged = chain();
+        Packstack damaged = Samples.chain();
         damaged.damage(1);
         damaged.pack(8, 6, true);
         due.is("reused() without the damaged delta, but with one against it", damaged.reused(), 1);
         due.is("compared()", damaged.compared(), 1);
 
-        Packstack wholeDamaged = chain();
+        Packstack wholeDamaged = Samples.chain();
         wholeDamaged.damage(0);
         wholeDamaged.pack(8, 6, true);
         due.is("reused() with a damaged base", wholeDamaged.reused(), 2);
@@ -333,7 +313,7 @@ public final class PromisesTest {
 
     private static void packReadableOnly() {
         due.promise("9, what is packed");
-        Packstack x = chain();
+        Packstack x = Samples.chain();
         x.prune();
         x.damage(1);
         x.store(5, 0x7L);
@@ -349,7 +329,7 @@ public final class PromisesTest {
 
     private static void packRefused() {
         due.promise("9, refused");
-        Packstack x = chain();
+        Packstack x = Samples.chain();
         for (int window : new int[] {0, 9, -1, Integer.MIN_VALUE, Integer.MAX_VALUE}) {
             due.badArgument("pack(" + window + ", 1, false)", () -> x.pack(window, 1, false));
         }
@@ -364,7 +344,7 @@ public final class PromisesTest {
 
     private static void prune() {
         due.promise("10");
-        Packstack x = stored(0x12345L, 0x12345L, 0x12345L, 0x9L);
+        Packstack x = Samples.stored(0x12345L, 0x12345L, 0x12345L, 0x9L);
         due.is("prune() without a pack", x.prune(), 0);
         x.pack(8, 6, false);
         x.store(5, 0x3L);
@@ -383,7 +363,7 @@ public final class PromisesTest {
 
     private static void damage() {
         due.promise("11");
-        Packstack x = chain();
+        Packstack x = Samples.chain();
         x.delete(2);
         due.is("damage(1): loose and deleted ones count", x.damage(1), 2);
         due.badState("damage(1) again", () -> x.damage(1));
@@ -403,7 +383,7 @@ public final class PromisesTest {
 
     private static void compared() {
         due.promise("12");
-        Packstack x = stored(0x12345L, 0x12345L, 0x12345L, 0x12345L);
+        Packstack x = Samples.stored(0x12345L, 0x12345L, 0x12345L, 0x12345L);
         due.is("compared() without a pack", x.compared(), 0);
         x.pack(8, 6, false);
         due.is("compared()", x.compared(), 6);
@@ -415,13 +395,13 @@ public final class PromisesTest {
         due.is("compared() with all reused", x.compared(), 0);
         x.pack(8, 0, false);
         due.is("compared() with none allowed", x.compared(), 0);
-        Packstack costly = packed(8, 6, 0x123L, 0x456L);
+        Packstack costly = Samples.packed(8, 6, 0x123L, 0x456L);
         due.is("compared() though the form is whole", costly.compared(), 1);
     }
 
     private static void reused() {
         due.promise("13");
-        Packstack x = chain();
+        Packstack x = Samples.chain();
         due.is("reused() in a first pack", x.reused(), 0);
         x.pack(8, 6, true);
         due.is("reused()", x.reused(), 2);
@@ -439,7 +419,7 @@ public final class PromisesTest {
 
     private static void forms() {
         due.promise("14");
-        Packstack x = stored(0x1L, 0x2L);
+        Packstack x = Samples.stored(0x1L, 0x2L);
         due.is("forms() without a pack", x.forms(), 0);
         x.pack(1, 1, false);
         due.is("forms()", x.forms(), 2);
@@ -454,7 +434,7 @@ public final class PromisesTest {
 
     private static void cost() {
         due.promise("15");
-        Packstack x = chain();
+        Packstack x = Samples.chain();
         due.is("cost()", x.cost(), 11);
         x.store(5, 0x123L);
         due.is("cost() after a store", x.cost(), 11);
@@ -467,7 +447,7 @@ public final class PromisesTest {
 
     private static void costOf() {
         due.promise("16");
-        Packstack x = packed(8, 6, 0x123456789L, 0x1234BC89L);
+        Packstack x = Samples.packed(8, 6, 0x123456789L, 0x1234BC89L);
         due.is("costOf(0)", x.costOf(0), 9);
         due.is("costOf(1): two copies, two letters", x.costOf(1), 7);
         x.damage(1);
@@ -480,7 +460,7 @@ public final class PromisesTest {
 
     private static void base() {
         due.promise("17");
-        Packstack x = chain();
+        Packstack x = Samples.chain();
         due.is("base(0)", x.base(0), Packstack.NONE);
         due.is("NONE", Packstack.NONE, -1);
         due.is("base(1)", x.base(1), 0);
@@ -495,7 +475,7 @@ public final class PromisesTest {
 
     private static void depth() {
         due.promise("18");
-        Packstack x = chain();
+        Packstack x = Samples.chain();
         due.is("depth(0)", x.depth(0), 0);
         due.is("depth(1)", x.depth(1), 1);
         due.is("depth(2)", x.depth(2), 2);
@@ -507,7 +487,7 @@ public final class PromisesTest {
 
     private static void parts() {
         due.promise("19");
-        Packstack x = packed(8, 6, 0x123456789L, 0x1234BC89L, 0x1234567L);
+        Packstack x = Samples.packed(8, 6, 0x123456789L, 0x1234BC89L, 0x1234567L);
         due.is("parts(0) whole", x.parts(0), 1);
         due.is("parts(1): two copies, two letters", x.parts(1), 4);
         due.is("parts(2): a copy", x.parts(2), 1);
@@ -519,7 +499,7 @@ public final class PromisesTest {
 
     private static void dependents() {
         due.promise("20");
-        Packstack x = chain();
+        Packstack x = Samples.chain();
         due.is("dependents(0), over the chain", x.dependents(0), 2);
         due.is("dependents(1)", x.dependents(1), 1);
         due.is("dependents(2)", x.dependents(2), 0);
@@ -536,7 +516,7 @@ public final class PromisesTest {
 
     private static void deltaCost() {
         due.promise("21");
-        Packstack x = stored(0x123456L, 0x12L, 0x1L, 0x3456129L, 0x2323L, 0x121312L);
+        Packstack x = Samples.stored(0x123456L, 0x12L, 0x1L, 0x3456129L, 0x2323L, 0x121312L);
         due.is("deltaCost(0, 0)", x.deltaCost(0, 0), 3);
         due.is("deltaCost(1, 0): a copy of 2 letters", x.deltaCost(1, 0), 3);
         due.is("deltaCost(2, 2): no copy of 1 letter", x.deltaCost(2, 2), 2);
@@ -547,17 +527,17 @@ public final class PromisesTest {
         due.is("deltaCost(4, 4): the longest copy", x.deltaCost(4, 4), 3);
         due.is("deltaCost(0, 5): letters that stand alone", x.deltaCost(0, 5), 7);
         due.is("deltaCost(5, 0)", x.deltaCost(5, 0), 7);
-        Packstack greedy = stored(0x123145L, 0x1231914523L);
+        Packstack greedy = Samples.stored(0x123145L, 0x1231914523L);
         due.is("deltaCost(0, 1): 1231, not 123, then 45", greedy.deltaCost(0, 1), 5);
-        Packstack greedyWorse = stored(0x12345678L, 0x1239345678L);
+        Packstack greedyWorse = Samples.stored(0x12345678L, 0x1239345678L);
         due.is("deltaCost(0, 1): 123, then 45678", greedyWorse.deltaCost(0, 1), 5);
-        Packstack greedyLetter = stored(0x1234L, 0x1239234L);
+        Packstack greedyLetter = Samples.stored(0x1234L, 0x1239234L);
         due.is("deltaCost(0, 1): 123, then 4, not 1, then 234", greedyLetter.deltaCost(0, 1), 4);
         x.delete(0);
         x.pack(1, 1, false);
         due.is("deltaCost(1, 0), the base deleted", x.deltaCost(1, 0), 3);
         due.is("deltaCost(0, 1), the object deleted", x.deltaCost(0, 1), 7);
-        Packstack full = stored(0xFFFFFFFFFFFFFFFL, 0x111111111111111L, 0xFFL);
+        Packstack full = Samples.stored(0xFFFFFFFFFFFFFFFL, 0x111111111111111L, 0xFFL);
         due.is("deltaCost(0, 0)", full.deltaCost(0, 0), 3);
         due.is("deltaCost(0, 1)", full.deltaCost(0, 1), 16);
         due.is("deltaCost(0, 2)", full.deltaCost(0, 2), 16);
@@ -585,7 +565,7 @@ public final class PromisesTest {
     private static void indexAt() {
         due.promise("23");
         // Their hashes: 234, 3562, 232, 3562, 233.
-        Packstack x = stored(0x3L, 0x12L, 0x1L, 0x12L, 0x2L);
+        Packstack x = Samples.stored(0x3L, 0x12L, 0x1L, 0x12L, 0x2L);
         due.badPlace("indexAt(0) without a pack", () -> x.indexAt(0));
         x.pack(8, 6, false);
         int[] wanted = {2, 4, 0, 1, 3};
@@ -613,7 +593,7 @@ public final class PromisesTest {
     private static void fanOut() {
         due.promise("24");
         // Their hashes: 255, 256, 511, 512, 3839, 3840.
-        Packstack x = stored(0x2E8L, 0x2E9L, 0x6E4L, 0x6E5L, 0x9FL, 0xD84L);
+        Packstack x = Samples.stored(0x2E8L, 0x2E9L, 0x6E4L, 0x6E5L, 0x9FL, 0xD84L);
         due.is("fanOut(15) without a pack", x.fanOut(15), 0);
         x.pack(8, 6, false);
         due.is("fanOut(0)", x.fanOut(0), 1);
@@ -634,7 +614,7 @@ public final class PromisesTest {
 
     private static void find() {
         due.promise("25");
-        Packstack x = stored(0x3L, 0x12L, 0x1L, 0x2L, 0x2E8L, 0x2E9L);
+        Packstack x = Samples.stored(0x3L, 0x12L, 0x1L, 0x2L, 0x2E8L, 0x2E9L);
         due.is("find(232) without a pack", x.find(232), Packstack.NONE);
         x.pack(8, 6, false);
         int[] hashes = {234, 3562, 232, 233, 255, 256};
@@ -644,7 +624,7 @@ public final class PromisesTest {
         for (int missing : new int[] {0, 231, 235, 254, 257, 3561, 3563, 4095}) {
             due.is("find(" + missing + ")", x.find(missing), Packstack.NONE);
         }
-        Packstack equal = packed(8, 6, 0x1L, 0x1L);
+        Packstack equal = Samples.packed(8, 6, 0x1L, 0x1L);
         due.is("find(232) of two the one that is looked at first", equal.find(232), 1);
         equal.delete(1);
         due.is("find(232) deleted", equal.find(232), 1);
@@ -657,7 +637,7 @@ public final class PromisesTest {
 
     private static void looks() {
         due.promise("26");
-        Packstack x = stored(0x1L, 0x2L, 0x3L, 0x12L);
+        Packstack x = Samples.stored(0x1L, 0x2L, 0x3L, 0x12L);
         due.is("looks(232) without a pack", x.looks(232), 0);
         x.pack(8, 6, false);
         due.is("looks(233)", x.looks(233), 1);
