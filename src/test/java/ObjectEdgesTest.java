@@ -23,6 +23,8 @@ public final class ObjectEdgesTest {
         lastOneDeleted();
         looseWhenStored();
         notLooseWhenDeleted();
+        notLooseWhenLost();
+        looseWithADamagedForm();
         readIfLiveAndLoose();
         readIfLiveAndInThePack();
         readThroughTheLongestChain();
@@ -275,6 +277,36 @@ public final class ObjectEdgesTest {
         due.badState("depth(1) after the next pack", () -> x.depth(1));
         due.is("forms()", x.forms(), 2);
         due.is("read(2)", x.read(2), Samples.FIVE);
+    }
+
+    private static void notLooseWhenLost() {
+        due.promise("6: an object that was pruned is not loose again, even if it is lost");
+        Packstack x = Samples.chain();
+        x.prune();
+        x.damage(1);
+        for (int object = 0; object < 3; object++) {
+            due.is("isLoose(" + object + ")", x.isLoose(object), false);
+            due.is("isLive(" + object + ")", x.isLive(object), true);
+            due.is("canRead(" + object + ")", x.canRead(object), object == 0);
+        }
+        x.pack(8, 6, true);
+        due.is("isLoose(0), in the next pack", x.isLoose(0), false);
+        due.is("isLoose(1), without a form", x.isLoose(1), false);
+        due.is("isLoose(2), without a form", x.isLoose(2), false);
+    }
+
+    private static void looseWithADamagedForm() {
+        due.promise("6: damage is done to the form alone");
+        Packstack x = Samples.chain();
+        x.damage(0);
+        x.prune();
+        for (int object = 0; object < 3; object++) {
+            due.is("isLoose(" + object + ")", x.isLoose(object), true);
+        }
+        x.pack(8, 6, true);
+        due.is("isLoose(0), with a sound form", x.isLoose(0), true);
+        due.is("prune()", x.prune(), 3);
+        due.is("isLoose(0), pruned", x.isLoose(0), false);
     }
 
     private static void readIfLiveAndLoose() {

@@ -156,6 +156,8 @@ public final class PromisesTest {
         due.is("isLoose(2)", x.isLoose(2), true);
         x.delete(2);
         due.is("isLoose(2) deleted", x.isLoose(2), false);
+        x.damage(0);
+        due.is("isLoose(0) lost", x.isLoose(0), false);
         due.badPlace("isLoose(3)", () -> x.isLoose(3));
         due.badPlace("isLoose(-1)", () -> x.isLoose(-1));
     }
